@@ -745,7 +745,7 @@ public final class RouteLayout {
     private static final class Orderer {
         private final Pieces pieces;
         private final Crossings crossings;
-        private final Exact exact;
+        private final BestRow bestRow;
         /** Of the pieces on one side of a layer: the item in it, and the neighbour's place. */
         private final int[] own = new int[ARROWS];
         private final int[] far = new int[ARROWS];
@@ -761,7 +761,7 @@ public final class RouteLayout {
         Orderer(Pieces pieces, Crossings crossings) {
             this.pieces = pieces;
             this.crossings = crossings;
-            exact = new Exact(pieces);
+            bestRow = new BestRow(pieces);
             movers = 0;
         }
 
@@ -770,7 +770,7 @@ public final class RouteLayout {
                 sweep(order);
             }
             for (int layer = 1; layer < order.layers(); layer++) {
-                exact.arrange(order, layer);
+                bestRow.arrange(order, layer);
             }
         }
 
@@ -878,7 +878,7 @@ public final class RouteLayout {
     }
 
     /** Finds the best order of a layer of few items against the layer above. */
-    private static final class Exact {
+    private static final class BestRow {
         private static final int MOST = 6;
 
         private final Pieces pieces;
@@ -894,7 +894,7 @@ public final class RouteLayout {
         private int bestCost;
         private int size;
 
-        Exact(Pieces pieces) {
+        BestRow(Pieces pieces) {
             this.pieces = pieces;
             bestCost = 0;
             size = 0;
@@ -1062,11 +1062,11 @@ public final class RouteLayout {
         }
 
         private int wanted(int layer, int code) {
-            if (code < 0 || code >= CODES || degree[code] == 0) {
+            if (code < 0 || code >= CODES || degree[code] <= 0) {
                 return leftOf(layer, code);
             }
-            // The sum may be negative: a wide first item can stand to the left of 0.
-            return Math.floorDiv(sum[code], degree[code]) - routes.widthOf(code) / 2;
+            // x may fall below 0 but no middle ever does, so the division goes down.
+            return sum[code] / degree[code] - routes.widthOf(code) / 2;
         }
 
         private int leastX(Order order) {
