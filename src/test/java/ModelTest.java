@@ -115,20 +115,55 @@ public final class ModelTest {
         }
     }
 
-    private void go(int turns) {
+    private void fill() {
         for (int id = 0; id < boxes; id++) {
-            int n = id;
             int width = 1 + random.nextInt(widest);
-            note("box(" + n + ", " + width + ")");
-            real.box(n, width);
-            model.box(n, width);
+            note("box(" + id + ", " + width + ")");
+            real.box(id, width);
+            model.box(id, width);
         }
         for (int a = 0; a < arrows; a++) {
             int from = random.nextInt(boxes);
-            int to = (from + 1 + random.nextInt(boxes - 1)) % boxes;
-            note("arrow(" + a + ", " + from + ", " + to + ")");
-            real.arrow(a, from, to);
-            model.arrow(a, from, to);
+            putArrow(a, from, (from + 1 + random.nextInt(boxes - 1)) % boxes);
+        }
+    }
+
+    /** Few layers, planned for each box, arrows that lead down, and pins that agree with them. */
+    private void fillPlanned() {
+        int[] plan = new int[boxes];
+        int layers = 2 + random.nextInt(4);
+        for (int id = 0; id < boxes; id++) {
+            plan[id] = random.nextInt(layers);
+            int width = 1 + random.nextInt(widest);
+            note("box(" + id + ", " + width + ")");
+            real.box(id, width);
+            model.box(id, width);
+            if (random.nextInt(12) < pinning) {
+                note("pin(" + id + ", " + plan[id] + ")");
+                real.pin(id, plan[id]);
+                model.pin(id, plan[id]);
+            }
+        }
+        for (int a = 0; a < arrows; a++) {
+            int from = random.nextInt(boxes);
+            int to = random.nextInt(boxes);
+            if (plan[from] < plan[to]) {
+                putArrow(a, from, to);
+            }
+        }
+    }
+
+    private void putArrow(int a, int from, int to) {
+        note("arrow(" + a + ", " + from + ", " + to + ")");
+        real.arrow(a, from, to);
+        model.arrow(a, from, to);
+    }
+
+    private void go(int turns) {
+        if (random.nextInt(2) == 0) {
+            fill();
+        } else {
+            fillPlanned();
         }
         for (int turn = 0; turn < turns && sound; turn++) {
             make();

@@ -389,6 +389,17 @@ public final class PromiseTest {
         spot(1, 1, 0, 0);
         counts(2, 2, 0, 50, 0);
 
+        start("7 an item without neighbours keeps the x that it had at first");
+        x.box(0, 2);
+        x.box(1, 50);
+        x.box(2, 2);
+        x.arrow(0, 0, 1);
+        x.pin(2, 1);
+        yes("draw", x.draw(0));
+        spot(0, 0, 0, 24);
+        spot(1, 1, 0, 0);
+        spot(2, 1, 1, 78);
+
         start("7 four passes");
         boxes(0, 2, 1);
         arrows(0, 0, 1, 0, 2);
