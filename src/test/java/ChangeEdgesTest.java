@@ -165,6 +165,9 @@ public final class ChangeEdgesTest extends Bench {
         yes("draw", x.draw(0));
         due("its layer", x.at(15, 0), 0);
         due("layers", x.count(3), 1);
+        x.arrow(0, 0, 15);
+        yes("it isn't pinned to layer 0 either", x.draw(0));
+        due("its layer", x.at(15, 0), 1);
     }
 
     private void removeOfNone() {

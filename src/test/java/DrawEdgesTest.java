@@ -173,8 +173,8 @@ public final class DrawEdgesTest extends Bench {
         start("7 'number (n - 1) / 2 (down), from 0 on'; 'as often as there are pieces'");
         boxes(0, 11, 1);
         pins(10, 11, 1);
-        // Of n = 1, 2, 3, 4 and, with one neighbour twice, 3: places 3, 0, 2, 1 and 4.
-        arrows(0, 3, 5, 0, 6, 4, 6, 1, 7, 2, 7, 4, 7, 0, 8, 1, 8, 3, 8, 4, 8);
+        // Of n = 3, 1, 2, 4 and, with one neighbour twice, 3: places 2, 3, 0, 1 and 4.
+        arrows(0, 0, 7, 2, 7, 4, 7, 3, 5, 0, 6, 4, 6, 0, 8, 1, 8, 3, 8, 4, 8);
         arrows(10, 1, 9, 4, 9, 4, 9);
         yes("draw", x.draw(1));
         row(1, 6, 8, 7, 5, 9, 10, 11);
@@ -262,6 +262,12 @@ public final class DrawEdgesTest extends Bench {
         row(1, 3, 2);
         row(2, 4, 5);
         row(3, 6, 7);
+        start("7 'of several the first one': two that cross either way");
+        boxes(0, 3, 1);
+        arrows(0, 0, 2, 0, 3, 1, 2, 1, 3);
+        yes("draw", x.draw(4));
+        row(1, 2, 3);
+        due("crossings", x.count(5), 1);
         start("7 'of several the first one': nothing to win");
         boxes(0, 11, 1);
         pins(6, 11, 1);

@@ -20,6 +20,18 @@ public final class RedrawEdgesTest extends Bench {
         due("redraw(0, 2)", x.redraw(0, 2), 2);
         row(1, 5, 4, 3);
         due("crossings", x.count(5), 0);
+        start("8 'than a drawing has': it has a crossing, too");
+        boxes(0, 3, 4);
+        arrows(0, 0, 3, 1, 2);
+        yes("draw", x.draw(0));
+        row(1, 3, 2);
+        arrows(2, 0, 2, 1, 3);
+        due("redraw(0, 0)", x.redraw(0, 0), 0);
+        row(1, 3, 2);
+        due("crossings", x.count(5), 1);
+        yes("draw", x.draw(0));
+        row(1, 2, 3);
+        due("crossings", x.count(5), 1);
         start("8 as many crossings are not more, with tolerance 0");
         boxes(0, 1, 4);
         yes("draw", x.draw(0));
@@ -136,15 +148,22 @@ public final class RedrawEdgesTest extends Bench {
     }
 
     private void contradiction() {
-        startTurned("8 '-1 if the pins contradict (then as above)'");
-        due("redraw", x.redraw(0, 2), 2);
-        x.pin(3, 0);
-        due("beside its upper end", x.redraw(4, 100000), -1);
+        start("8 '-1 if the pins contradict (then as above)'");
+        boxes(0, 1, 4);
+        yes("draw", x.draw(0));
+        x.remove(0);
+        due("redraw", x.redraw(0, 0), 1);
+        x.box(0, 4);
+        due("redraw", x.redraw(0, 0), 0);
+        row(0, 1, 0);
+        x.arrow(0, 0, 1);
+        x.pin(1, 0);
+        due("1 beside its upper end", x.redraw(4, 100000), -1);
         nothingTold();
         due("again", x.redraw(0, 0), -1);
-        x.pin(3, -1);
+        x.drop(0);
         due("OLD has stayed", x.redraw(0, 0), 0);
-        row(1, 5, 4, 3);
+        row(0, 1, 0);
     }
 
     private void withoutOld() {
