@@ -27,6 +27,9 @@ public final class RouteLayout {
      */
     private static final int CODES = BOXES + ARROWS;
 
+    /** Beyond every x and every number of crossings; LANGUAGE.md has no Integer.MAX_VALUE. */
+    private static final int BEYOND = 1 << 30;
+
     private final Routes routes;
     private final Levels levels;
     private final Pieces pieces;
@@ -910,7 +913,7 @@ public final class RouteLayout {
                 codes[place] = order.itemIn(layer, place);
                 used[place] = false;
             }
-            bestCost = Integer.MAX_VALUE;
+            bestCost = BEYOND;
             choose(0, 0);
             for (int place = 0; place < size; place++) {
                 order.put(layer, place, codes[best[place]]);
@@ -951,12 +954,16 @@ public final class RouteLayout {
             }
             for (int place = 0; place < size; place++) {
                 if (!used[place]) {
-                    used[place] = true;
                     chosen[depth] = place;
-                    choose(depth + 1, spent + costAhead(place));
-                    used[place] = false;
+                    chooseBehind(place, depth, spent);
                 }
             }
+        }
+
+        private void chooseBehind(int place, int depth, int spent) {
+            used[place] = true;
+            choose(depth + 1, spent + costAhead(place));
+            used[place] = false;
         }
 
         private int costAhead(int place) {
@@ -1053,7 +1060,7 @@ public final class RouteLayout {
         }
 
         private void straighten(Order order, int layer) {
-            int least = Integer.MIN_VALUE;
+            int least = -BEYOND;
             for (int place = 0; place < order.sizeOf(layer); place++) {
                 int code = order.itemIn(layer, place);
                 move(layer, code, Math.max(wanted(layer, code), least));
@@ -1070,7 +1077,7 @@ public final class RouteLayout {
         }
 
         private int leastX(Order order) {
-            int least = Integer.MAX_VALUE;
+            int least = BEYOND;
             for (int layer = 0; layer < order.layers(); layer++) {
                 for (int place = 0; place < order.sizeOf(layer); place++) {
                     least = Math.min(least, leftOf(layer, order.itemIn(layer, place)));

@@ -76,7 +76,9 @@ public final class FaceTest {
         String text = Files.readString(Path.of("src/main/java/RouteLayout.java"));
         String code = text.replaceAll("(?s)/\\*.*?\\*/", "").replaceAll("//[^\n]*", "");
         for (String word : List.of("->", "::", "\\bfinally\\b", "\\bsynchronized\\b", "\\bassert\\b", "\\btry\\b",
-                "\\bcatch\\b", "\\bpackage\\b", "Exact\\(", "\\bSystem\\.(?!arraycopy)", "\\bimport (?!java\\.util\\.Arrays;)")) {
+                "\\bcatch\\b", "\\bpackage\\b", "Exact\\(", "\\bSystem\\.(?!arraycopy)", "\\bimport (?!java\\.util\\.Arrays;)",
+                // Of these classes rule 4 has functions alone, not what they hold as constants.
+                "\\b(Integer|Long|Math|Arrays)\\.\\w+\\b(?!\\()")) {
             check.due("uses of " + word, Pattern.compile(word).matcher(code).results().count(), 0);
         }
         Matcher thrown = Pattern.compile("throw new (\\w+)\\((\"[^\"]*\")?\\);").matcher(code);
@@ -84,20 +86,29 @@ public final class FaceTest {
         long known = thrown.results().filter(r -> r.group(1).equals("IllegalArgumentException")).count();
         check.due("throws of IllegalArgumentException alone", known, throwsIn);
         check.due("signs 1 to 127", text.chars().filter(c -> c < 1 || c > 127).count(), 0);
-        checkLengths(check, text.split("\n"));
+        checkMethods(check, text.split("\n"));
     }
 
-    private static void checkLengths(Check check, String[] lines) {
+    private static void checkMethods(Check check, String[] lines) {
         int begin = -1;
         for (int k = 0; k < lines.length; k++) {
-            if (lines[k].matches("( {4}| {8})(public|private|[A-Za-z]+)[^;=]*\\) ?(throws \\w+ )?\\{")) {
+            if (lines[k].matches("( {4}| {8})(?!if |for |while |switch )[A-Za-z][^;=]*\\) ?(throws \\w+ )?\\{")) {
                 begin = k;
             }
             if (begin >= 0 && lines[k].matches(" {4}\\}| {8}\\}") && lines[k].indexOf('}') == indent(lines[begin])) {
                 check.due("at most 60 lines from line " + (begin + 1), k - begin + 1 <= 60 ? 1 : 0, 1);
+                checkRecursion(check, lines[begin], String.join("\n", Arrays.copyOfRange(lines, begin + 1, k)));
                 begin = -1;
             }
         }
+    }
+
+    /** Rule 8: what calls itself is static; others may call one another. */
+    private static void checkRecursion(Check check, String head, String body) {
+        Matcher name = Pattern.compile("(\\w+)\\(").matcher(head);
+        check.due("a name in " + head, name.find() ? 1 : 0, 1);
+        boolean callsItself = Pattern.compile("(?<![.\\w])(this\\.)?" + name.group(1) + "\\(").matcher(body).find();
+        check.due("calls itself: " + head.strip(), callsItself && !head.contains(" static ") ? 1 : 0, 0);
     }
 
     private static int indent(String line) {

@@ -58,7 +58,7 @@ public final class RoughTest {
         }
     }
 
-    /** 16 boxes in a chain of 24 layers with long arrows, drawn and redrawn 470 times. */
+    /** 16 boxes in a chain through 23 layers with long arrows, drawn and redrawn 470 times. */
     private static void dear(Check check) {
         RouteLayout x = new RouteLayout();
         for (int id = 0; id < 16; id++) {
